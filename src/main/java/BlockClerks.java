@@ -536,15 +536,6 @@ public final class BlockClerks {
         int blocks = 0;
         int latest = NONE;
 
-        /** The place may have been another clerk's whose coming was undone. */
-        void begin(int newKind) {
-            kind = newKind;
-            given = 0;
-            blocks = 0;
-            latest = NONE;
-            drop();
-        }
-
         void become(Clerk other) {
             kind = other.kind;
             low = other.low;
@@ -601,6 +592,7 @@ public final class BlockClerks {
         static final int[] MOST = {50, 1, 10};
 
         final Numbers numbers = new Numbers();
+        /** Those from clerkCount on are as at first, also when their coming was undone. */
         final Clerk[] clerks = new Clerk[MOST_CLERKS];
         int clerkCount = 0;
         final int[] settings = {10, 1, 4};
@@ -633,7 +625,7 @@ public final class BlockClerks {
             if (clerkCount < 0 || clerkCount >= clerks.length) {
                 return LIMIT_REACHED;
             }
-            clerks[clerkCount].begin(kind);
+            clerks[clerkCount].kind = kind;
             clerkCount++;
             return clerkCount - 1;
         }

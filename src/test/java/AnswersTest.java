@@ -98,7 +98,9 @@ public final class AnswersTest {
                 "among 1 600 13 = 8", "among 2 2 12 = 1", "among 3 9 10 = 7", "among 34 36 1 = 3",
                 "among 33 40 1 = 7", "among 40 41 0 = 1");
         Rows.run("promise 14, free ones", "clerk 0 = 0", "ask 0 2 = 2", "giveBack 0 = 8", "among 3 10 3 = 8",
-                "among 1 4 3 = 2", "among 3 10 10 = 0", "among 3 10 13 = 0");
+                "among 1 4 3 = 2", "among 3 10 10 = 0", "among 3 10 13 = 0", "among 4 9 3 = 6", "makeVoid 1 = 0",
+                "among 1 1 12 = 1", "among 2 600 12 = 0", "among 1 600 12 = 1", "clerkOf 0 6 = 1", "close = 8",
+                "among 4 9 13 = 6");
     }
 
     private static void count() {

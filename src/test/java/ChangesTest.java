@@ -12,6 +12,8 @@ public final class ChangesTest {
         makeVoid();
         close();
         set();
+        lastNumbers();
+        changesAfterTrials();
         Rows.end();
     }
 
@@ -149,5 +151,37 @@ public final class ChangesTest {
                 "set 1 2 = -1", "set 2 1 = -1", "set 2 11 = -1", "count 10 = 0", "set 0 1 = 10", "set 0 50 = 1",
                 "set 0 50 = 50", "set 1 0 = 1", "set 1 1 = 0", "set 2 2 = 4", "set 2 10 = 2", "count 20 = 50",
                 "count 21 = 1", "count 22 = 10", "count 10 = 4", "undo = 3", "count 22 = 2");
+    }
+
+    private static void lastNumbers() {
+        String most = "text ask 0 50;ask 0 50;ask 0 50;ask 0 50;ask 0 50;ask 0 50;ask 0 50;ask 0 50;";
+        Rows.run("promises 3, 5 and 7, the last numbers", "clerk 2 = 0", most, "play = 8", "ask 0 50 = 450",
+                "ask 0 50 = 500", "ask 0 50 = 550", "ask 0 49 = 599", "next 0 = 600", "clerkOf 0 3 = 600",
+                "giveBack 0 = 1", "freeAt 0 0 = 600", "freeAt 0 1 = 600", "next 0 = 600", "clerk 1 = 1",
+                "close = 1", "numberOf 600 4 = 3", "numberOf 600 1 = -4", "count 9 = 1", "holesAt 0 0 = 600",
+                "among 600 600 13 = 1", "among 1 599 13 = 0", "next 0 = -3", "undo = 3", "undo = 2",
+                "next 1 = -1", "ask 0 1 = 600", "clerkOf 0 8 = 61", "makeVoid 600 = 0", "clerkOf 0 6 = 1");
+        Rows.run("promises 4 and 7, the last number", "clerk 2 = 0", "clerk 1 = 1", most, "play = 8",
+                "ask 0 50 = 450", "ask 0 50 = 500", "ask 0 50 = 550", "ask 0 49 = 599", "cost 0 0 = 1",
+                "worst = 0", "cost 0 1 = 0", "cost 0 2 = -3", "forget 0 = 1", "numberOf 600 4 = 0",
+                "clerkOf 0 6 = 1", "clerkOf 0 7 = 1", "undo = 3", "next 1 = -3", "close = 1",
+                "numberOf 600 1 = 0", "numberOf 600 4 = 3", "clerkOf 0 6 = 1", "clerkOf 0 7 = 0");
+    }
+
+    /** What cost(), fault(), play() and undo() tried out or restored leaves nothing behind. */
+    private static void changesAfterTrials() {
+        String[] trials = {"cost 0 44 = 3", "fault 0 = 16", "play = -2", "undo = 3"};
+        String[] changes = {"clerk 2 = 2", "ask 0 1 = 4", "forget 0 = 7", "giveBack 0 = 7", "makeVoid 3 = 0",
+            "close = 14", "set 0 9 = 10"};
+        for (String trial : trials) {
+            String ahead = trial.startsWith("undo") ? "ask 1 5 = 18" : "next 1 = 14";
+            for (String change : changes) {
+                String behind = change.startsWith("close") ? "next 1 = 21" : "next 1 = 14";
+                Rows.run(change + " after " + trial, "text ask 0 9;ask 0 9;ask 0 0;", "clerk 2 = 0", "clerk 0 = 1",
+                        "ask 0 3 = 3", "ask 1 3 = 13", ahead, trial, change, behind, "undo = 3", "next 0 = 4",
+                        "next 1 = 14", "count 2 = 6", "count 1 = 0", "count 0 = 2", "count 20 = 10",
+                        "count 5 = 0", "count 4 = 0");
+            }
+        }
     }
 }

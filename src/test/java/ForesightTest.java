@@ -15,6 +15,8 @@ public final class ForesightTest {
                 "ask 1 1 = 11", "next 1 = 12", "forget 1 = 3", "next 1 = 15", "giveBack 0 = 8", "next 0 = 3",
                 "next 1 = 15", "set 1 0 = 1", "next 0 = 21", "ask 1 6 = 20", "next 1 = 21", "set 1 1 = 0",
                 "next 1 = 3");
+        Rows.run("promise 16, one number held", "clerk 0 = 0", "clerk 0 = 1", "ask 0 1 = 1", "ask 1 9 = 19",
+                "next 1 = 20", "giveBack 0 = 9", "next 1 = 20", "next 0 = 2");
     }
 
     private static void cost() {
@@ -38,6 +40,8 @@ public final class ForesightTest {
                 "ask 0 1 = 1", "worst = -4", "ask 1 2 = 12", "ask 2 2 = 22", "worst = 1", "ask 1 1 = 13",
                 "worst = 2", "ask 2 2 = 24", "worst = 1", "forget 1 = 1", "worst = -4", "clerk 2 = 3",
                 "ask 3 8 = 38", "worst = 3", "ask 2 1 = 25", "worst = 2", "close = 22", "worst = -4");
+        Rows.run("promise 18, the lowest", "clerk 2 = 0", "clerk 2 = 1", "ask 1 1 = 1", "worst = 1",
+                "ask 0 1 = 11", "worst = 0", "ask 0 1 = 12", "worst = 1");
     }
 
     private static void undo() {

@@ -1,7 +1,9 @@
 import java.util.ArrayDeque;
 import java.util.ArrayList;
 import java.util.Deque;
+import java.util.HashMap;
 import java.util.List;
+import java.util.Map;
 import java.util.TreeSet;
 import java.util.regex.Matcher;
 import java.util.regex.Pattern;
@@ -19,7 +21,8 @@ final class Model {
     /** A number was given by a clerk on a day. */
     private record Giving(int number, int clerk, int day) { }
 
-    private record Hole(int number, int reason, int clerk) { }
+    /** A number's hole: its reason and its clerk, -1 if there is none. */
+    private record Hole(int reason, int clerk) { }
 
     private static final class Person {
         int kind;
@@ -32,7 +35,8 @@ final class Model {
         TreeSet<Integer> fresh = new TreeSet<>();
         TreeSet<Integer> free = new TreeSet<>();
         List<Giving> givings = new ArrayList<>();
-        List<Hole> holes = new ArrayList<>();
+        Map<Integer, Integer> turns = new HashMap<>();
+        Map<Integer, Hole> holes = new HashMap<>();
         List<Person> people = new ArrayList<>();
         int[] settings = {10, 1, 4};
         int day;
@@ -42,7 +46,8 @@ final class Model {
             other.fresh.addAll(fresh);
             other.free.addAll(free);
             other.givings.addAll(givings);
-            other.holes.addAll(holes);
+            other.turns.putAll(turns);
+            other.holes.putAll(holes);
             other.settings = settings.clone();
             other.day = day;
             for (Person person : people) {
@@ -57,11 +62,11 @@ final class Model {
         }
 
         Hole hole(int number) {
-            return holes.stream().filter(h -> h.number == number).findFirst().orElse(null);
+            return holes.get(number);
         }
 
         Giving giving(int number) {
-            return givings.stream().filter(g -> g.number == number).findFirst().orElse(null);
+            return turns.containsKey(number) ? givings.get(turns.get(number)) : null;
         }
 
         Person holder(int number) {
@@ -195,6 +200,7 @@ final class Model {
             }
             int top = person.holds.last();
             last = person.holds.pollFirst();
+            w.turns.put(last, w.givings.size());
             w.givings.add(new Giving(last, clerk, w.day));
             if (person.kind == 0) {
                 person.mark = last;
@@ -231,7 +237,7 @@ final class Model {
         }
         int many = 0;
         while (!person.holds.isEmpty() && person.holds.first() <= person.mark) {
-            w.holes.add(new Hole(person.holds.pollFirst(), 0, clerk));
+            w.holes.put(person.holds.pollFirst(), new Hole(0, clerk));
             many++;
         }
         return many;
@@ -250,7 +256,7 @@ final class Model {
             if (w.settings[1] == 1) {
                 w.free.add(n);
             } else {
-                w.holes.add(new Hole(n, 1, clerk));
+                w.holes.put(n, new Hole(1, clerk));
             }
         }
         person.holds.clear();
@@ -265,7 +271,7 @@ final class Model {
             return IMPOSSIBLE;
         }
         int clerk = w.giving(number).clerk;
-        w.holes.add(new Hole(number, 2, clerk));
+        w.holes.put(number, new Hole(2, clerk));
         return clerk;
     }
 
@@ -273,12 +279,12 @@ final class Model {
         int before = w.holes.size();
         for (int i = 0; i < w.people.size(); i++) {
             for (int n : w.people.get(i).holds) {
-                w.holes.add(new Hole(n, 3, i));
+                w.holes.put(n, new Hole(3, i));
             }
             w.people.get(i).holds.clear();
         }
         for (int n : w.free) {
-            w.holes.add(new Hole(n, 3, -1));
+            w.holes.put(n, new Hole(3, -1));
         }
         w.free.clear();
         w.day++;
@@ -305,7 +311,7 @@ final class Model {
         switch (what) {
             case 0: return world.state(number);
             case 1: return world.clerk(number) < 0 ? MISSING : world.clerk(number);
-            case 2: return giving == null ? MISSING : world.givings.indexOf(giving);
+            case 2: return giving == null ? MISSING : world.turns.get(number);
             case 3: return giving == null ? MISSING : giving.day;
             case 4: return hole == null ? MISSING : hole.reason;
             default: return giving == null ? MISSING : world.late(number) ? 1 : 0;
@@ -328,8 +334,8 @@ final class Model {
             case 3: return person.holds.last();
             case 4: return person.mark;
             case 5: return own.size();
-            case 6: return (int) world.holes.stream().filter(h -> h.clerk == clerk).count();
-            case 7: return (int) world.holes.stream().filter(h -> h.clerk == clerk && h.reason == 0).count();
+            case 6: return (int) world.holes.values().stream().filter(h -> h.clerk == clerk).count();
+            case 7: return (int) world.holes.values().stream().filter(h -> h.clerk == clerk && h.reason == 0).count();
             case 8: return person.blocks;
             default: return own.get(own.size() - 1).number;
         }
