@@ -1,6 +1,6 @@
 /** Long runs of calls, always the same ones, on the program and on the model: all promises at once. */
 public final class ModelTest {
-    private static final int RUNS = 250;
+    private static final int RUNS = 500;
     private static final int CALLS = 512;
     private static final String[] ASKING = {"numberOf", "clerkOf", "holesAt", "freeAt", "turnAt", "among", "count",
         "next", "cost", "worst", "fault"};
