@@ -137,6 +137,10 @@ public final class EdgesOfAnswersTest {
         Rows.runAfter("promise 10, holes of each reason", ahead, "set 1 0 = 1", "giveBack 2 = 9", "clerkOf 2 6 = 9",
                 "clerkOf 2 7 = 0", "close = 22", "clerkOf 0 6 = 8", "clerkOf 1 6 = 8", "clerkOf 1 7 = 2", "clerkOf 2 6 = 9",
                 "clerkOf 3 6 = 0");
+        Rows.runAfter("promise 10, holes at 1 and 600", Beginnings.NONE_LEFT, "makeVoid 1 = 0", "clerkOf 0 6 = 1",
+                "makeVoid 600 = 0", "clerkOf 0 6 = 2", "clerkOf 0 7 = 0");
+        Rows.runAfter("promise 10, 600 forgotten", Beginnings.FIFTY_LEFT, "ask 1 49 = 599", "forget 1 = 1",
+                "clerkOf 1 6 = 1", "clerkOf 1 7 = 1", "clerkOf 0 6 = 0");
     }
 
     /** Promise 11: "INVALID_ARGUMENT if an argument is out of range"; that rather than NOT_FOUND. */
@@ -277,6 +281,9 @@ public final class EdgesOfAnswersTest {
         Rows.runAfter("promise 14, reasons", ahead, "among 2 2 12 = 1", "among 1 1 12 = 0", "among 3 3 12 = 0",
                 "among 13 14 10 = 2", "among 14 14 10 = 1", "among 15 15 10 = 0", "among 12 12 10 = 0", "among 1 600 11 = 0",
                 "among 1 600 13 = 0", "close = 31", "among 1 600 13 = 31", "among 32 40 13 = 9", "among 1 600 10 = 2");
+        Rows.runAfter("promise 14, reasons at 1 and 600", Beginnings.NONE_LEFT, "makeVoid 1 = 0", "makeVoid 600 = 0",
+                "among 1 600 12 = 2", "among 1 1 12 = 1", "among 600 600 12 = 1", "among 2 600 12 = 1", "among 1 599 12 = 1",
+                "among 2 599 12 = 0", "among 1 600 4 = 2", "among 1 600 2 = 598");
     }
 
     /** Promise 15: "INVALID_ARGUMENT if what is out of range": 0 to 11 and 20 to 22. */
